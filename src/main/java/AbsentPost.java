@@ -249,7 +249,8 @@ public final class AbsentPost {
     }
 
     public int undo(int n) {
-        if (n < 0 || n >= now.deedCount) {
+        // from just behind the last deed on there are none: none is undone
+        if (n < 0 || n > now.deedCount) {
             return BAD;
         }
         int gone = now.deedCount - n;

@@ -306,8 +306,9 @@ final class Oracle {
     }
 
     int undo(int n) {
-        if (!in(n, 0, now.past.size() - 1)) return BAD;
+        if (!in(n, 0, now.past.size())) return BAD;
         int gone = now.past.size() - n;
+        if (gone == 0) return 0;
         World w = now.past.get(n).bare();
         w.past.addAll(now.past.subList(0, n));
         now = w;

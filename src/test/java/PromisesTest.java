@@ -414,8 +414,13 @@ public final class PromisesTest {
     }
 
     private static void p16() {
-        AbsentPost x = Check.posted(LANE);
-        Check.due("16: no deeds", x.undo(0), BAD);
+        AbsentPost x = new AbsentPost();
+        Check.due("16: none on a new object", x.undo(0), 0);
+        Check.due("16: no such place on a new object", x.undo(1), BAD);
+        Check.due("16: no such place on a new object", x.undo(-1), BAD);
+        x = Check.posted(LANE);
+        Check.due("16: no deeds", x.undo(0), 0);
+        Check.due("16: no such place", x.undo(1), BAD);
         long[] ahead = new long[6];
         Check.lay(x, 0, 0, 1, 2, 3, 4, 5);
         ahead[0] = x.digest();
@@ -428,8 +433,13 @@ public final class PromisesTest {
         x.lots(1, 77);
         ahead[4] = x.digest();
         x.walk(0);
-        Check.due("16: no such deed", x.undo(5), BAD);
-        Check.due("16: no such deed", x.undo(-1), BAD);
+        ahead[5] = x.digest();
+        Check.due("16: beyond the end", x.undo(6), BAD);
+        Check.due("16: below 0", x.undo(-1), BAD);
+        Check.due("16: far off", x.undo(Integer.MAX_VALUE), BAD);
+        Check.due("16: far off", x.undo(Integer.MIN_VALUE), BAD);
+        Check.due("16: none behind the last", x.undo(5), 0);
+        Check.due("16: nothing changes", x.digest(), ahead[5]);
         Check.due("16: the last", x.undo(4), 1);
         Check.due("16: as it was", x.digest(), ahead[4]);
         Check.due("16: two", x.undo(2), 2);
@@ -451,6 +461,21 @@ public final class PromisesTest {
         x.walk(0);
         x.undo(1);
         Check.due("16: a short round stays", x.digest(), one);
+        x.errand(1, 11);
+        one = x.digest();
+        Check.due("16: today's errand stays", x.undo(2), 0);
+        Check.due("16: today's errand stays", x.digest(), one);
+        x = Check.posted("h0093 h0094");
+        for (int k = 0; k < 40; k++) {
+            x.lots(1, k + 1);
+        }
+        Check.due("16: 40 deeds", x.count(2), 40);
+        one = x.digest();
+        Check.due("16: none behind 40", x.undo(40), 0);
+        Check.due("16: all 40 stay", x.digest(), one);
+        Check.due("16: more than 40", x.undo(41), BAD);
+        Check.due("16: all 40", x.undo(0), 40);
+        Check.due("16: none is left", x.undo(0), 0);
     }
 
     private static void p17and18() {
