@@ -96,6 +96,17 @@ final class PostEdges {
         Edge.due(x.post(3), 1);
         Edge.refused(x, () -> x.house(1, 0), BAD);
         Edge.due(x.count(3), 2);
+        // texts of all 60 bytes, of as few and as many houses as may be
+        String[] full = {"h0011".concat(" ".repeat(55)), " ".repeat(55).concat("h0011"),
+            "h0011h0011h0011h0011h0011h0011".concat(" ".repeat(30)),
+            " ".repeat(30).concat("h0011h0011h0011h0011h0011h0011")};
+        for (String signs : full) {
+            int houses = signs.trim().length() / 5;
+            AbsentPost y = Check.posted(signs);
+            Edge.due(y.count(0), houses);
+            Edge.due(y.count(3), houses);
+            Edge.due(y.empty(0), (1 << houses) - 1);
+        }
         // the text may go on by itself
         x.text(3, 0);
         Edge.due(x.count(0), 1);
