@@ -1,23 +1,27 @@
 import java.util.Random;
 
-/** Many runs of calls by lot, each compared with what Oracle answers. */
+/** Many runs of as many calls by lot as an object is used for, each compared with what Oracle answers. */
 public final class OracleTest {
-    private static final int RUNS = 1500, CALLS = 200;
+    private static final int RUNS = 3000, CALLS = 512;
     private static final int[] ODD = {Integer.MIN_VALUE, -1, 40, 41, 60, 61, 1000, Integer.MAX_VALUE - 1, Integer.MAX_VALUE};
     private final Random lot;
     private final AbsentPost x = new AbsentPost();
     private final Oracle o = new Oracle();
     private final int run;
+    /** Of a hundred: in some runs a post goes on for long, in others new ones are written often. */
+    private final int writes;
+    private int calls;
 
     private OracleTest(int run) {
         this.run = run;
         lot = new Random(run);
+        writes = lot.nextInt(4);
     }
 
     public static void main(String[] args) {
         for (int run = 0; run < RUNS; run++) {
             OracleTest t = new OracleTest(run);
-            for (int k = 0; k < CALLS; k++) {
+            for (int k = 0; t.calls < CALLS; k++) {
                 t.call(k);
             }
         }
@@ -43,7 +47,10 @@ public final class OracleTest {
     }
 
     private void same(String what, long got, long want) {
-        Check.due("run " + run + ": " + what, got, want);
+        calls++;
+        if (calls <= CALLS) {
+            Check.due("run " + run + ", call " + calls + ": " + what, got, want);
+        }
     }
 
     private void write() {
@@ -120,9 +127,16 @@ public final class OracleTest {
         return textSame;
     }
 
+    /** Mostly one of the last, so that there come to be many. */
+    private int aDeed() {
+        int deeds = o.now.past.size();
+        return lot.nextInt(3) == 0 ? some(deeds + 1) : deeds - lot.nextInt(3);
+    }
+
     private void deedCall() {
-        int r = aRow(), h = aHouse(), t = some(11), k = some(2), n = some(o.now.past.size() + 1), s = lot.nextInt();
-        int days = 1 + lot.nextInt(lot.nextInt(4) == 0 ? 21 : 3);
+        int r = aRow(), h = aHouse(), t = some(11), k = some(2), n = aDeed();
+        int s = lot.nextInt() & (lot.nextInt(10) == 0 ? -1 : Integer.MAX_VALUE);
+        int days = 1 + lot.nextInt(lot.nextInt(3) == 0 ? 21 : 3);
         switch (lot.nextInt(9)) {
             case 0: case 1: case 2: same("errand", x.errand(h, t), o.errand(h, t)); break;
             case 3: case 4: same("walk", x.walk(r), o.walk(r)); break;
@@ -164,9 +178,10 @@ public final class OracleTest {
 
     private void call(int k) {
         int dice = lot.nextInt(100);
-        if (dice < 3 || k == 10) {
+        // in one run of eight there may be no houses for long
+        if (dice < writes || run % 8 > 0 && o.now.houses.isEmpty()) {
             write();
-        } else if (dice < 15) {
+        } else if (dice < 15 || k < 3) {
             layRound();
         } else if (dice < 20) {
             laySights();
@@ -174,18 +189,24 @@ public final class OracleTest {
             rowsCall();
         } else if (dice < 55) {
             deedCall();
-        } else if (dice < 99) {
+        } else if (dice < 96) {
             askCall();
         } else {
             searchCall();
         }
-        same("asked", x.asked(), o.asked);
-        same("upper", x.upper(), o.upper.longValueExact());
-        same("lower", x.lower(), o.lower.longValueExact());
-        same("finding", x.finding(), o.finding);
-        int f = some(6), c = some(9);
-        same("findings", x.findings(f), o.findings(f));
-        same("count", x.count(c), o.count(c));
         same("digest", x.digest(), o.digest());
+        same("asked", x.asked(), o.asked);
+        tellCall();
+    }
+
+    private void tellCall() {
+        int f = some(6), c = some(9);
+        switch (lot.nextInt(5)) {
+            case 0: same("upper", x.upper(), o.upper.longValueExact()); break;
+            case 1: same("lower", x.lower(), o.lower.longValueExact()); break;
+            case 2: same("finding", x.finding(), o.finding); break;
+            case 3: same("findings", x.findings(f), o.findings(f)); break;
+            default: same("count", x.count(c), o.count(c)); break;
+        }
     }
 }
