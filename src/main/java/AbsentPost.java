@@ -1117,7 +1117,7 @@ public final class AbsentPost {
         /** There are fewer than 40 deeds. */
         void doErrand(int h, int hour) {
             errandHours[h] |= 1 << hour;
-            deeds[deedCount++] = -(h * HOURS + hour + 1);
+            writeDown(-(h * HOURS + hour + 1));
         }
 
         /** There are fewer than 40 deeds; the hours are overwritten. */
@@ -1134,8 +1134,14 @@ public final class AbsentPost {
             addDaily(due);
             Arrays.fill(errandHours, 0);
             day++;
-            deeds[deedCount++] = round.pack();
+            writeDown(round.pack());
             return letters;
+        }
+
+        private void writeDown(long deed) {
+            if (deedCount < DEEDS_MOST) {
+                deeds[deedCount++] = deed;
+            }
         }
 
         /** Does the first n deeds anew from the start; the round and the hours are overwritten. */

@@ -1,16 +1,12 @@
-import java.io.ByteArrayOutputStream;
+import java.io.File;
 import java.io.IOException;
-import java.io.PrintStream;
 import java.lang.reflect.Method;
 import java.lang.reflect.Modifier;
-import java.net.URL;
-import java.net.URLClassLoader;
 import java.nio.charset.StandardCharsets;
 import java.nio.file.Files;
 import java.nio.file.Path;
 import java.util.regex.Matcher;
 import java.util.regex.Pattern;
-import javax.tools.ToolProvider;
 
 /** README.md: its example, taken as written, prints what stands there; each call is named. */
 public final class ReadmeTest {
@@ -38,24 +34,20 @@ public final class ReadmeTest {
         Path folder = Files.createTempDirectory("example");
         try {
             Path source = Files.writeString(folder.resolve("Example.java"), example);
-            int wrong = ToolProvider.getSystemJavaCompiler().run(null, null, null,
-                "-cp", System.getProperty("java.class.path"), "-d", folder.toString(), source.toString());
-            return wrong == 0 ? run(folder) : "it does not compile";
+            String classes = System.getProperty("java.class.path");
+            return run("javac", "-cp", classes, "-d", folder.toString(), source.toString())
+                + run("java", "-cp", folder + File.pathSeparator + classes, "Example");
         } finally {
             remove(folder);
         }
     }
 
-    private static String run(Path folder) throws Exception {
-        PrintStream screen = System.out;
-        ByteArrayOutputStream caught = new ByteArrayOutputStream();
-        try (URLClassLoader classes = new URLClassLoader(new URL[] {folder.toUri().toURL()})) {
-            System.setOut(new PrintStream(caught, true, StandardCharsets.UTF_8));
-            classes.loadClass("Example").getMethod("main", String[].class).invoke(null, (Object) new String[0]);
-        } finally {
-            System.setOut(screen);
-        }
-        return caught.toString(StandardCharsets.UTF_8).replace("\r\n", "\n");
+    /** What a command printed; its complaints go to the screen. */
+    private static String run(String... command) throws Exception {
+        Process process = new ProcessBuilder(command).redirectError(ProcessBuilder.Redirect.INHERIT).start();
+        String printed = new String(process.getInputStream().readAllBytes(), StandardCharsets.UTF_8);
+        process.waitFor();
+        return printed.replace("\r\n", "\n");
     }
 
     private static void remove(Path folder) throws IOException {
